@@ -138,7 +138,7 @@ public final class OlderByABlush {
             trial.passDay();
             int died = alive & ~trial.living();
             if (died != 0) {
-                return what == 0 ? Integer.numberOfTrailingZeros(died) : d;
+                return what == 0 ? lowestOf(died) : d;
             }
         }
         return NONE;
@@ -334,6 +334,15 @@ public final class OlderByABlush {
 
     private static boolean has(int set, int bit) {
         return (set >> bit & 1) != 0;
+    }
+
+    private static int lowestOf(int set) {
+        for (int i = 0; i < PEOPLE; i++) {
+            if (has(set, i)) {
+                return i;
+            }
+        }
+        return NONE;
     }
 
     /** What one of this kind ages for one more who learns a secret of his that so many others know. */
@@ -654,7 +663,7 @@ public final class OlderByABlush {
             }
         }
 
-        Village place() {
+        Village home() {
             return village;
         }
 
@@ -757,7 +766,7 @@ public final class OlderByABlush {
                 if (knows(i, s) && village.ownerOf(s) != i) {
                     int hearers = meetsOf(i) & ~knowersOf(s);
                     if (hearers != 0) {
-                        return speak(i, s, Integer.lowestOneBit(hearers));
+                        return speak(i, s, 1 << lowestOf(hearers));
                     }
                 }
             }
@@ -837,18 +846,18 @@ public final class OlderByABlush {
 
         /** Another is taken to tell it, so the care is never halved; a dead one ages no more. */
         private static int ownersCare(Standing standing, int s, int told) {
-            int owner = standing.place().ownerOf(s);
+            int owner = standing.home().ownerOf(s);
             if (!standing.isAlive(owner)) {
                 return 0;
             }
-            return care(standing.place().kindOf(owner), standing.othersKnowing(s) + told);
+            return care(standing.home().kindOf(owner), standing.othersKnowing(s) + told);
         }
 
         private void passOn(Standing standing, int s, int ownersCare) {
             for (int j = 0; j < PEOPLE; j++) {
                 nextCosts[j] = FAR;
                 if (standing.isAlive(j) && !standing.knows(j, s)) {
-                    int own = standing.place().kindOf(j) == CONFESSOR ? 1 : 0;
+                    int own = standing.home().kindOf(j) == CONFESSOR ? 1 : 0;
                     nextCosts[j] = Math.min(FAR, cheapest(standing.meetsOf(j)) + ownersCare + own);
                 }
             }
