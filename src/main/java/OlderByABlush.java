@@ -407,13 +407,15 @@ public final class OlderByABlush {
     }
 
     private void stepOfYear(int z, int k) {
-        if (village.people() == 0 || village.secrets() == 0) {
+        int people = village.people();
+        int secrets = village.secrets();
+        if (people <= 0 || secrets <= 0) {
             return;
         }
         long x = 7919L * z + 6151L * k + 1;
         int draw = (int) (x * x % 65521 / 8);
-        int i = draw % village.people();
-        int s = draw / 6 % village.secrets();
+        int i = draw % people;
+        int s = draw / 6 % secrets;
         if (trial.isAlive(i) && trial.knows(i, s)) {
             trial.speak(i, s, trial.meetsOf(i));
         }

@@ -2,13 +2,15 @@ import java.util.Random;
 
 /** All promises: long runs of drawn calls on drawn villages, each answer held against the model's. */
 public final class AgainstModelTest {
-    private static final int RUNS = 1500, CALLS = 300;
+    /** Behind the 512th call of an object the document promises nothing. */
+    private static final int RUNS = 6000, CALLS = 512;
     private static final int[] WILD = {Integer.MIN_VALUE, -100, -2, -1, 13, 61, 64, 100, 10000, Integer.MAX_VALUE};
 
     private final Random random;
     private final OlderByABlush real = new OlderByABlush();
     private final Model model = new Model();
     private final StringBuilder story = new StringBuilder();
+    private int calls = 0;
 
     private AgainstModelTest(long seed) {
         random = new Random(seed);
@@ -23,11 +25,11 @@ public final class AgainstModelTest {
     }
 
     private static void confessions() {
-        OlderByABlush x = new OlderByABlush();
         Model model = new Model();
         for (int u = -1; u <= 10; u++) {
             for (int c = -1; c <= 3; c++) {
                 for (int chance = -1; chance <= 11; chance++) {
+                    OlderByABlush x = new OlderByABlush();
                     for (int n = -1; n <= 13; n++) {
                         for (int what = 0; what < 3; what++) {
                             Check.due("confession " + u + " " + c + " " + chance + " " + n + " " + what,
@@ -43,7 +45,8 @@ public final class AgainstModelTest {
         if (random.nextInt(10) > 0) {
             layDrawn();
         }
-        for (int k = 0; k < CALLS; k++) {
+        // so many calls one step of a run makes at most, but for a new text
+        while (calls + 64 <= CALLS) {
             if (!call(random.nextInt(29))) {
                 Check.due(story.toString(), 1, 0);
                 return;
@@ -52,6 +55,7 @@ public final class AgainstModelTest {
     }
 
     private boolean agree(String call, long got, long want) {
+        calls++;
         story.append(call).append(got).append(got == want ? ";\n" : " BUT DUE IS " + want);
         return got == want;
     }
@@ -64,6 +68,7 @@ public final class AgainstModelTest {
             real.write(letter);
             model.write(letter);
         }
+        calls += text.length() + 1;
         story.append(text).append('\n');
     }
 
@@ -162,7 +167,7 @@ public final class AgainstModelTest {
     }
 
     private boolean villages(int what) {
-        if (random.nextInt(12) == 0) {
+        if (random.nextInt(12) == 0 && calls + 250 <= CALLS) {
             layDrawn();
             return agree("lay ", real.lay(), model.lay());
         }

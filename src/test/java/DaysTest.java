@@ -177,7 +177,7 @@ public final class DaysTest {
         OlderByABlush x = new OlderByABlush();
         OlderByABlush lived = new OlderByABlush();
         String ahead = Check.state(x);
-        for (int n = 0; n <= 60; n++) {
+        for (int n = 0; n <= 12; n++) {
             for (int i = 0; i < 5; i++) {
                 Check.due("age by gossip " + n + " " + i, x.gossip(n, i, 0), lived.person(i, 0));
                 Check.due("known by gossip " + n + " " + i, x.gossip(n, i, 1), lived.person(i, 3));

@@ -65,9 +65,9 @@ public final class ShouldBeTest {
     }
 
     private static void allTogether() {
-        OlderByABlush x = new OlderByABlush();
         for (int i = 0; i < 5; i++) {
             for (int set = 0; set < 32; set++) {
+                OlderByABlush x = new OlderByABlush();
                 int sum = 0;
                 for (int s = 0; s < 5; s++) {
                     sum += (set >> s & 1) * x.reach(s, i);
@@ -75,6 +75,7 @@ public final class ShouldBeTest {
                 Check.due("all " + set + " " + i, x.all(set, i), sum);
             }
         }
+        OlderByABlush x = new OlderByABlush();
         Check.due("a set beyond", x.all(32, 0), BAD);
         Check.due("a set below 0", x.all(-1, 0), BAD);
         Check.due("the lowest set", x.all(Integer.MIN_VALUE, 0), BAD);
@@ -158,7 +159,7 @@ public final class ShouldBeTest {
     }
 
     private static void order(OlderByABlush x, int shades, int... turns) {
-        String ahead = Check.state(x);
+        String ahead = Check.standing(x);
         Check.due("shades", x.order(-1), shades);
         for (int k = 0; k < turns.length; k++) {
             Check.due("turn " + k, x.order(k), turns[k]);
@@ -166,7 +167,7 @@ public final class ShouldBeTest {
         Check.due("none behind", x.order(turns.length), BAD);
         Check.due("none ahead", x.order(-2), BAD);
         Check.due("lowest", x.order(Integer.MIN_VALUE), BAD);
-        Check.same("nothing changes", Check.state(x), ahead);
+        Check.same("nothing changes", Check.standing(x), ahead);
     }
 
     private static void orders() {
